@@ -44,6 +44,7 @@ public final class PromisesTest {
         promise11And12Waiting();
         promises13To16Settled();
         promises13To16AfterChanges();
+        promises13To16FromTheMidst();
         promise16Full();
         refusedChangesNothing();
         objectsAreApart();
@@ -149,7 +150,7 @@ public final class PromisesTest {
         due("in is used", x.channel(0, 1, 1, 0, 1), NONE);
         due("both are used", x.channel(0, 0, 1, 0, 1), NONE);
         due("the others", x.channel(0, 1, 1, 1, 1), 1);
-        due("to itself", new YardActors().channel(0, 0, 0, 0, 1), NONE);
+        due("no actors at all", new YardActors().channel(0, 0, 0, 0, 1), NONE);
         due("back", x.channel(1, 0, 0, 0, 3), 2);
     }
 
@@ -325,10 +326,15 @@ public final class PromisesTest {
         due("both are taken", x.waits(0), 0);
         due("both are taken", x.waits(1), 0);
         x.act(0);
-        due("in 1 has none", x.can(2), false);
         x.act(1);
         due("no room", x.can(2), false);
         due("no room", x.act(2), false);
+        x.act(3);
+        due("room again", x.act(2), true);
+        x.act(3);
+        x.act(0);
+        due("in 1 has none", x.can(2), false);
+        due("in 1 has none", x.act(2), false);
         x.run(2L, 2000);
         dueKept(x, 3, 11, MIN, 11);
         due("acted", x.acted(2), 3);
@@ -412,7 +418,7 @@ public final class PromisesTest {
         part = "gate";
         YardActors x = twoFed(GATE, 1);
         tell(x, 0, 1, 0, -1, 0, MIN);
-        tell(x, 1, 10, 0, 30, 40, 50);
+        tell(x, 1, 10, 20, 0, 40, 50);
         x.act(0);
         due("in 1 has none", x.can(2), false);
         x.act(1);
@@ -438,7 +444,7 @@ public final class PromisesTest {
         due("lost, though there is room", x.act(2), true);
         dueWaiting(x, 2);
         x.run(1L, 2000);
-        dueKept(x, 3, 10, 30, 50);
+        dueKept(x, 3, 10, 0, 50);
         due("acted", x.acted(2), 5);
     }
 
@@ -726,6 +732,35 @@ public final class PromisesTest {
         due("told behind", x.atLast(1, 1), 7);
         due("not yet", x.at(1, 1), NO_VALUE);
         due("not yet", x.acted(0), 2);
+    }
+
+    private static void promises13To16FromTheMidst() {
+        part = "promises 13 to 16, from the midst";
+        YardActors x = new YardActors();
+        x.actor(SOURCE, 0, 0);
+        x.actor(SPLIT, 0, 0);
+        x.actor(SINK, 0, 0);
+        x.channel(0, 0, 1, 0, 8);
+        x.channel(1, 0, 2, 0, 8);
+        for (int k = 0; k < 20; k++) {
+            x.value(0, k);
+        }
+        for (int k = 0; k < 11; k++) {
+            x.act(0);
+            if (k < 5) {
+                x.act(1);
+                x.act(2);
+            }
+        }
+        dueWaiting(x, 0, 5, 6, 7, 8, 9, 10);
+        due("keptAtLast", x.keptAtLast(2), 10);
+        for (int k = 0; k < 10; k++) {
+            due("atLast " + k, x.atLast(2, k), 2 * k);
+        }
+        due("actedAtLast", x.actedAtLast(1), 20);
+        dueWaiting(x, 0, 5, 6, 7, 8, 9, 10);
+        dueKept(x, 2, 0, 2, 4);
+        due("acted", x.acted(1), 5);
     }
 
     private static void promise16Full() {
