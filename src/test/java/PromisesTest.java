@@ -46,7 +46,6 @@ public final class PromisesTest {
         promises13To16AfterChanges();
         promises13To16FromTheMidst();
         promise16Full();
-        refusedChangesNothing();
         objectsAreApart();
         System.out.println(wrong == 0 ? "all promises hold" : wrong + " answers are not as due");
         if (wrong != 0) {
@@ -798,35 +797,6 @@ public final class PromisesTest {
         due("but not at last", passing.fullAtLast(0), NONE);
     }
 
-    private static void refusedChangesNothing() {
-        part = "refused";
-        YardActors x = twoFed(SUM, 2);
-        tell(x, 0, 1, 2, 3);
-        tell(x, 1, 10, 20, 30);
-        x.run(5L, 4);
-        String before = all(x);
-        x.actor(9, 0, 0);
-        x.actor(-1, 0, 0);
-        x.value(2, 4);
-        x.value(-1, 4);
-        x.channel(0, 0, 3, 0, 1);
-        x.channel(2, 0, 3, 0, 1);
-        x.channel(0, 1, 2, 2, 1);
-        x.channel(7, 0, 8, 0, 1);
-        x.act(-1);
-        x.act(4);
-        x.run(1L, -1);
-        x.run(1L, 2001);
-        x.can(0);
-        due("as before", all(x).equals(before), true);
-        for (int n = 0; n < 4; n++) {
-            if (!x.can(n)) {
-                due("can't act", x.act(n), false);
-            }
-        }
-        due("as before", all(x).equals(before), true);
-    }
-
     private static void objectsAreApart() {
         part = "two objects";
         YardActors x = fed(MAP, 1, 1, 1);
@@ -879,20 +849,6 @@ public final class PromisesTest {
         for (int v : values) {
             due("value", x.value(source, v), true);
         }
-    }
-
-    private static String all(YardActors x) {
-        StringBuilder s = new StringBuilder();
-        for (int n = 0; n <= 16; n++) {
-            s.append(x.acted(n)).append(' ').append(x.can(n)).append(' ').append(x.kept(n));
-            s.append(' ').append(x.waits(n)).append(' ').append(x.actedAtLast(n));
-            s.append(' ').append(x.keptAtLast(n)).append(' ').append(x.fullAtLast(n));
-            for (int k = 0; k < 8; k++) {
-                s.append(' ').append(x.at(n, k)).append(' ').append(x.waiting(n, k));
-                s.append(' ').append(x.atLast(n, k));
-            }
-        }
-        return s.toString();
     }
 
     private static void dueCounts(YardActors x, int[] picks, int steps) {
