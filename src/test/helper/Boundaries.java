@@ -22,6 +22,8 @@ abstract class Boundaries {
     static final int KINDS = 9;
     static final int[] INS = {0, 1, 1, 2, 2, 1, 1, 2, 1};
     static final int[] OUTS = {1, 1, 2, 1, 1, 1, 0, 1, 2};
+    // No actor, channel, kind, in, out or room has such a number.
+    static final int[] FAR = {MIN, MIN + 1, -2, 11, 16, 17, 60, 61, 100, MAX - 1, MAX};
 
     /** Runs every method of the class whose name begins with 'promise', each by itself. */
     static void runAll(Class<?> tests) {
@@ -100,6 +102,32 @@ abstract class Boundaries {
         t.due(1, "actor", COPY, 0, 0);
         t.due(0, "channel", 0, 0, 1, 0, 1);
         t.due(1, "channel", 1, 0, 0, 0, 1);
+        return t;
+    }
+
+    /** A ring like the other that counts: 2, a sink, gets 0, 1, 2 .. by channel 2; 3 is a map. */
+    static Trial countingRing(int room) {
+        Trial t = new Trial();
+        t.due(0, "actor", DELAY, 0, 0);
+        t.due(1, "actor", COPY, 0, 0);
+        t.due(2, "actor", SINK, 0, 0);
+        t.due(3, "actor", MAP, 1, 1);
+        t.due(0, "channel", 0, 0, 1, 0, 1);
+        t.due(1, "channel", 1, 0, 3, 0, 1);
+        t.due(2, "channel", 1, 1, 2, 0, room);
+        t.due(3, "channel", 3, 0, 0, 0, 1);
+        return t;
+    }
+
+    /** Five copies and five merges in a ring: all of their 30 ends are joined, by 15 channels. */
+    static Trial allEndsJoined() {
+        Trial t = yard(COPY, MERGE, COPY, MERGE, COPY, MERGE, COPY, MERGE, COPY, MERGE);
+        for (int pair = 0; pair < 5; pair++) {
+            int copy = 2 * pair;
+            t.due(3 * pair, "channel", copy, 0, copy + 1, 0, 1);
+            t.due(3 * pair + 1, "channel", copy, 1, copy + 1, 1, 8);
+            t.due(3 * pair + 2, "channel", copy + 1, 0, (copy + 2) % 10, 0, 4);
+        }
         return t;
     }
 

@@ -1,7 +1,5 @@
 /** The boundary cases of promises 1 to 4: a new object, actors, values told, channels. */
 public final class Boundary01To04Test extends Boundaries {
-    private static final int[] FAR = {MIN, MIN + 1, -2, 11, 16, 17, MAX - 1, MAX};
-
     public static void main(String[] args) {
         runAll(Boundary01To04Test.class);
     }
@@ -466,18 +464,6 @@ public final class Boundary01To04Test extends Boundaries {
                 t.refused("channel", from, out, (from + 1) % 10, 1, 1);
             }
         }
-    }
-
-    /** Five copies and five merges in a ring, with fifteen channels. */
-    private static Trial allEndsJoined() {
-        Trial t = yard(COPY, MERGE, COPY, MERGE, COPY, MERGE, COPY, MERGE, COPY, MERGE);
-        for (int pair = 0; pair < 5; pair++) {
-            int copy = 2 * pair;
-            t.due(3 * pair, "channel", copy, 0, copy + 1, 0, 1);
-            t.due(3 * pair + 1, "channel", copy, 1, copy + 1, 1, 8);
-            t.due(3 * pair + 2, "channel", copy + 1, 0, (copy + 2) % 10, 0, 4);
-        }
-        return t;
     }
 
     // "each from an out to an in": they may be of one actor.

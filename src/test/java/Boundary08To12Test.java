@@ -1,7 +1,5 @@
 /** The boundary cases of promises 8 to 12: what can be seen of actors, sinks and channels now. */
 public final class Boundary08To12Test extends Boundaries {
-    private static final int[] FAR = {MIN, MIN + 1, -2, 11, 16, 17, 60, 61, 100, MAX};
-
     public static void main(String[] args) {
         runAll(Boundary08To12Test.class);
     }
@@ -106,7 +104,7 @@ public final class Boundary08To12Test extends Boundaries {
 
     // "it KEPT less than 60": 60 is the greatest answer.
     static void promise09SixtyIsTheGreatest() {
-        Trial t = sixtyKept(59);
+        Trial t = keptSoMany(59);
         t.due(59, "kept", 2);
         acts(t, 2, 1);
         t.due(60, "kept", 2);
@@ -118,16 +116,8 @@ public final class Boundary08To12Test extends Boundaries {
     }
 
     /** A ring that feeds a sink, number 2, which kept so many and has a value more waiting. */
-    private static Trial sixtyKept(int many) {
-        Trial t = new Trial();
-        t.due(0, "actor", DELAY, 0, 0);
-        t.due(1, "actor", COPY, 0, 0);
-        t.due(2, "actor", SINK, 0, 0);
-        t.due(3, "actor", MAP, 1, 1);
-        t.due(0, "channel", 0, 0, 1, 0, 1);
-        t.due(1, "channel", 1, 0, 3, 0, 1);
-        t.due(2, "channel", 1, 1, 2, 0, 8);
-        t.due(3, "channel", 3, 0, 0, 0, 1);
+    private static Trial keptSoMany(int many) {
+        Trial t = countingRing(8);
         for (int k = 0; k <= many; k++) {
             acts(t, 0, 1);
             acts(t, 1, 1);
@@ -159,7 +149,7 @@ public final class Boundary08To12Test extends Boundaries {
 
     // The last place there can be: 59.
     static void promise10Place59() {
-        Trial t = sixtyKept(59);
+        Trial t = keptSoMany(59);
         t.due(58, "at", 2, 58);
         t.refused("at", 2, 59);
         acts(t, 2, 1);
@@ -215,24 +205,12 @@ public final class Boundary08To12Test extends Boundaries {
 
     // The last channel that there can be: ten actors have 30 ends, so it is number 14.
     static void promise11FifteenthChannel() {
-        Trial t = fifteenChannels();
+        Trial t = allEndsJoined();
         t.due(0, "waits", 14);
         t.refused("waits", 15);
         t.refused("waits", 16);
         t.refused("waiting", 14, 0);
         t.refused("waiting", 15, 0);
-    }
-
-    /** Five merges and five splits in a ring, with fifteen channels. */
-    private static Trial fifteenChannels() {
-        Trial t = yard(SPLIT, MERGE, SPLIT, MERGE, SPLIT, MERGE, SPLIT, MERGE, SPLIT, MERGE);
-        for (int pair = 0; pair < 5; pair++) {
-            int split = 2 * pair;
-            t.due(3 * pair, "channel", split, 0, split + 1, 1, 1);
-            t.due(3 * pair + 1, "channel", split, 1, split + 1, 0, 8);
-            t.due(3 * pair + 2, "channel", split + 1, 0, (split + 2) % 10, 0, 4);
-        }
-        return t;
     }
 
     // "How many values are in a channel": from none to its room, and back to none.

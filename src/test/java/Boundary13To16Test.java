@@ -1,7 +1,5 @@
 /** The boundary cases of promises 13 to 16: what will be when all is settled. */
 public final class Boundary13To16Test extends Boundaries {
-    private static final int[] FAR = {MIN, MIN + 1, -2, 11, 16, 17, 60, 61, 100, MAX};
-
     public static void main(String[] args) {
         runAll(Boundary13To16Test.class);
     }
@@ -124,11 +122,9 @@ public final class Boundary13To16Test extends Boundaries {
         }
         t.refused("atLast", 1, -1);
         t.refused("atLast", 1, 59);
-        for (int k = 0; k < FAR.length; k++) {
-            if (FAR[k] < 0 || FAR[k] >= 20) {
-                t.refused("atLast", 1, FAR[k]);
-            }
-        }
+        t.refused("atLast", 1, 60);
+        t.refused("atLast", 1, MIN);
+        t.refused("atLast", 1, MAX);
     }
 
     // "Long.MIN_VALUE when there is none such": no such sink.
@@ -149,15 +145,7 @@ public final class Boundary13To16Test extends Boundaries {
 
     // The last place there can be: 59; and the values there are the ones that came sixtieth.
     static void promise14Place59() {
-        Trial t = new Trial();
-        t.due(0, "actor", DELAY, 0, 0);
-        t.due(1, "actor", COPY, 0, 0);
-        t.due(2, "actor", SINK, 0, 0);
-        t.due(3, "actor", MAP, 1, 1);
-        t.due(0, "channel", 0, 0, 1, 0, 1);
-        t.due(1, "channel", 1, 0, 3, 0, 1);
-        t.due(2, "channel", 1, 1, 2, 0, 2);
-        t.due(3, "channel", 3, 0, 0, 0, 1);
+        Trial t = countingRing(2);
         for (int k = 0; k < 60; k++) {
             t.due(k, "atLast", 2, k);
         }
@@ -214,6 +202,21 @@ public final class Boundary13To16Test extends Boundaries {
         t.same(100, "actedAtLast", 1);
         t.same(2, "fullAtLast", 1);
         t.same(1, "fullAtLast", 0);
+    }
+
+    // The longest way there is: one value goes round ten actors, against their numbers, 100 times.
+    static void promise15ThousandActsOneBehindTheOther() {
+        Trial t = yard(MAP, MAP, COPY, MAP, MAP, MAP, COPY, MAP, MAP, DELAY);
+        t.due(0, "channel", 0, 0, 9, 0, 1);
+        for (int n = 1; n < 10; n++) {
+            t.due(n, "channel", n, 0, n - 1, 0, 1);
+        }
+        for (int n = 0; n < 10; n++) {
+            t.same(100, "actedAtLast", n);
+        }
+        t.same(0, "fullAtLast", 0);
+        t.refused("fullAtLast", 1);
+        t.due(1000, "run", 2, 2000);
     }
 
     // "How often an actor will have acted": what it acted already counts.

@@ -1,22 +1,5 @@
 /** Each promise of the document by itself: ordinary inputs, edges and wrong inputs. */
-public final class PromisesTest {
-    private static final int NONE = -1;
-    private static final long NO_VALUE = Long.MIN_VALUE;
-    private static final int MIN = Integer.MIN_VALUE;
-    private static final int MAX = Integer.MAX_VALUE;
-
-    private static final int SOURCE = 0;
-    private static final int MAP = 1;
-    private static final int SPLIT = 2;
-    private static final int MERGE = 3;
-    private static final int SUM = 4;
-    private static final int DELAY = 5;
-    private static final int SINK = 6;
-    private static final int GATE = 7;
-    private static final int COPY = 8;
-    private static final int[] INS = {0, 1, 1, 2, 2, 1, 1, 2, 1};
-    private static final int[] OUTS = {1, 1, 2, 1, 1, 1, 0, 1, 2};
-
+public final class PromisesTest extends Boundaries {
     private static int wrong = 0;
     private static String part = "";
 
