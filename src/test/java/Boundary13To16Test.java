@@ -1,3 +1,8 @@
+import java.util.ArrayDeque;
+import java.util.Arrays;
+import java.util.HashSet;
+import java.util.Set;
+
 /** The boundary cases of promises 13 to 16: what will be when all is settled. */
 public final class Boundary13To16Test extends Boundaries {
     public static void main(String[] args) {
@@ -350,6 +355,77 @@ public final class Boundary13To16Test extends Boundaries {
             kept(t, 2, 0, 2, 4, 6, 8);
             kept(t, 3, 1, 3, 5, 7);
         }
+    }
+
+    // "Whoever acts first": in every order that there is, told from every yard on the way.
+    static void promise13To16SameInEveryOrder() {
+        everyOrder(gatedBySplit(1), new int[] {3, 2, 2, 1, 1, 1}, new int[] {0}, new int[] {0, 3});
+        everyOrder(gatedBySplit(2), new int[] {4, 4, 4, 2, 2, 1}, new int[] {0, 3}, new int[] {3});
+    }
+
+    /**
+     * A copy sends all to a gate's in 0 by channel 3, and to a split that sends every other value
+     * to its in 1: with room for one value the copy will wait for the gate, and the gate for it.
+     */
+    private static Trial gatedBySplit(int room) {
+        Trial t = yard(SOURCE, COPY, SPLIT, GATE, SINK, SINK);
+        t.due(0, "channel", 0, 0, 1, 0, 1);
+        t.due(1, "channel", 1, 0, 2, 0, 1);
+        t.due(2, "channel", 2, 0, 3, 1, 1);
+        t.due(3, "channel", 1, 1, 3, 0, room);
+        t.due(4, "channel", 2, 1, 4, 0, 1);
+        t.due(5, "channel", 3, 0, 5, 0, 1);
+        tell(t, 0, 1, 0, 2, 3);
+        return t;
+    }
+
+    private static void everyOrder(Trial start, int[] acted, int[] kept, int[] full) {
+        Set<String> seen = new HashSet<>();
+        ArrayDeque<Trial> open = new ArrayDeque<>();
+        open.add(start);
+        int ends = 0;
+        while (!open.isEmpty()) {
+            Trial t = open.remove();
+            if (seen.add(actedSoFar(t, acted.length))) {
+                dueAtLast(t, acted, kept, full);
+                int before = open.size();
+                for (int n = 0; n < acted.length; n++) {
+                    if (t.ask("can", n) == 1) {
+                        Trial next = t.again();
+                        acts(next, n, 1);
+                        open.add(next);
+                    }
+                }
+                ends += open.size() == before ? 1 : 0;
+            }
+        }
+        if (ends != 1 || !seen.contains(Arrays.toString(acted))) {
+            Trial.fault(ends + " ends, or not the one that is due, among " + seen.size() + " yards");
+        }
+    }
+
+    private static String actedSoFar(Trial t, int actors) {
+        int[] acted = new int[actors];
+        for (int n = 0; n < actors; n++) {
+            acted[n] = (int) t.ask("acted", n);
+        }
+        return Arrays.toString(acted);
+    }
+
+    private static void dueAtLast(Trial t, int[] acted, int[] kept, int[] full) {
+        for (int n = 0; n < acted.length; n++) {
+            t.due(acted[n], "actedAtLast", n);
+        }
+        t.due(kept.length, "keptAtLast", 4);
+        for (int k = 0; k < kept.length; k++) {
+            t.due(kept[k], "atLast", 4, k);
+        }
+        t.due(1, "keptAtLast", 5);
+        t.due(1, "atLast", 5, 0);
+        for (int k = 0; k < full.length; k++) {
+            t.due(full[k], "fullAtLast", k);
+        }
+        t.due(NONE, "fullAtLast", full.length);
     }
 
     // "All is SETTLED when no actor can act": then what is, and what will be, are the same.

@@ -30,6 +30,7 @@ public final class PromisesTest extends Boundaries {
         promises13To16FromTheMidst();
         promise16Full();
         objectsAreApart();
+        exampleOfTheReadme();
         System.out.println(wrong == 0 ? "all promises hold" : wrong + " answers are not as due");
         if (wrong != 0) {
             System.exit(1);
@@ -791,6 +792,27 @@ public final class PromisesTest extends Boundaries {
         due("x", x.at(2, 0), 2);
         due("y", y.atLast(2, 1), 4);
         due("x", x.keptAtLast(2), 1);
+    }
+
+    private static void exampleOfTheReadme() {
+        part = "README.md";
+        YardActors yard = new YardActors();
+        int source = yard.actor(SOURCE, 0, 0);
+        int map = yard.actor(MAP, 3, 1);
+        int sink = yard.actor(SINK, 0, 0);
+        due("channel", yard.channel(source, 0, map, 0, 2), 0);
+        due("channel", yard.channel(map, 0, sink, 0, 1), 1);
+        due("value", yard.value(source, 5), true);
+        due("value", yard.value(source, 6), true);
+        due("keptAtLast", yard.keptAtLast(sink), 2);
+        due("atLast", yard.atLast(sink, 1), 19);
+        due("can", yard.can(map), false);
+        due("act", yard.act(source), true);
+        due("waiting", yard.waiting(0, 0), 5);
+        due("run", yard.run(7L, 2000), 5);
+        due("kept", yard.kept(sink), 2);
+        due("at", yard.at(sink, 0), 16);
+        due("at", yard.at(sink, 2), NO_VALUE);
     }
 
     /** 0: a source, 1: the actor in question, 2: a sink; the channels have the same room. */
